@@ -1,175 +1,16 @@
 /** Each promise of the document by itself: ordinary inputs, its edges, and wrong inputs. */
-public final class PipersDeskPromises {
-  private static final int MIN = Integer.MIN_VALUE;
-  private static final int MAX = Integer.MAX_VALUE;
-  private static final String ARGUMENT = "IllegalArgumentException";
-  private static final String STATE = "IllegalStateException";
-  private static final String INDEX = "IndexOutOfBoundsException";
-  private static final String ELEMENT = "NoSuchElementException";
-
+public final class PipersDeskPromises extends DeskChecks {
   private static final String[] CLOSED = {
     "01234567", "0123456", "012345", "012347", "01237", "012456", "01456", "0456", "1456"
   };
 
-  private interface Call {
-    Object on(PipersDesk desk);
-  }
-
-  private interface Maker {
-    PipersDesk make();
-  }
-
-  private static String promise = "";
-  private static int line = 0;
-  private static int wrong = 0;
-
-  private static void begin(String name) {
-    promise = name;
-    line = 0;
-  }
-
-  private static String outcome(PipersDesk desk, Call call) {
-    try {
-      return String.valueOf(call.on(desk));
-    } catch (RuntimeException e) {
-      return e.getClass().getSimpleName();
-    }
-  }
-
-  private static void same(String got, String want) {
-    line++;
-    if (!got.equals(want)) {
-      wrong++;
-      System.out.println(promise + ", check " + line + ": answered " + got + ", due is " + want);
-    }
-  }
-
-  private static void due(Object want, PipersDesk desk, Call call) {
-    same(outcome(desk, call), String.valueOf(want));
-  }
-
-  /** A call that throws, on a desk that answers all other calls as a twin that never had it. */
-  private static void refused(String exception, Maker maker, Call call) {
-    PipersDesk desk = maker.make();
-    due(exception, desk, call);
-    same(probe(desk), probe(maker.make()));
-  }
-
-  /** What a desk answers to some 350 calls; the last of them change it. */
-  private static String probe(PipersDesk desk) {
-    StringBuilder told = new StringBuilder();
-    for (int from = 0; from < 9; from++) {
-      for (int to = 0; to < 9; to++) {
-        told.append(desk.isBarred(from, to) ? 'x' : '.');
-      }
-    }
-    told.append(' ').append(desk.ornaments());
-    for (int o = 0; o < desk.ornaments(); o++) {
-      told.append(desk.fits(o, 0, 5, 1)).append(desk.fits(o, 8, 2, 8));
-    }
-    for (int t = 0; t < 4; t++) {
-      probeTune(desk, t, told);
-    }
-    told.append(outcome(desk, d -> d.sets())).append(outcome(desk, d -> d.leastSet()));
-    for (int place = 0; place < 4; place++) {
-      int at = place;
-      told.append(' ').append(outcome(desk, d -> d.tuneAt(at)));
-    }
-    for (int t = 0; t < 4; t++) {
-      takeApart(desk, t, told);
-    }
-    told.append(outcome(desk, d -> d.grace(0)));
-    told.append(outcome(desk, d -> d.enter()));
-    int last = desk.ornaments() - 1;
-    for (int before = 0; before < 9; before++) {
-      int b = before;
-      told.append(outcome(desk, d -> d.fits(last, b, 5, 1))).append(outcome(desk, d -> d.fits(last, 1, 5, b)));
-    }
-    return told.toString();
-  }
-
-  private static void probeTune(PipersDesk desk, int t, StringBuilder told) {
-    told.append(" tune ").append(desk.notes(t)).append(' ').append(desk.choices(t));
-    told.append(outcome(desk, d -> d.least(t))).append(' ').append(outcome(desk, d -> d.mostOrnaments(t)));
-    told.append(outcome(desk, d -> d.average(t)));
-    for (int i = 0; i < desk.notes(t); i++) {
-      int at = i;
-      told.append(' ').append(outcome(desk, d -> d.time(t, at)));
-      told.append(' ').append(outcome(desk, d -> d.fitting(t, at)));
-      told.append(' ').append(outcome(desk, d -> d.chosen(t, at)));
-    }
-  }
-
-  private static void takeApart(PipersDesk desk, int t, StringBuilder told) {
-    for (int gap = 0; gap + 1 < desk.notes(t); gap++) {
-      told.append(desk.setWish(t, gap, false));
-    }
-    while (desk.notes(t) > 0) {
-      told.append(' ').append(desk.removeNote(t));
-    }
-  }
-
-  private static void ornament(PipersDesk desk, int... graces) {
-    for (int grace : graces) {
-      desk.grace(grace);
-    }
-    desk.enter();
-  }
-
-  private static void tune(PipersDesk desk, int t, int length, int... pitches) {
-    for (int pitch : pitches) {
-      desk.addNote(t, pitch, length);
-    }
-  }
-
-  private static PipersDesk fresh() {
-    return new PipersDesk();
-  }
-
-  private static PipersDesk furnished() {
-    PipersDesk desk = new PipersDesk();
-    ornament(desk, 7);
-    ornament(desk, 7, 10);
-    ornament(desk, 8);
-    desk.grace(6);
-    desk.grace(9);
-    tune(desk, 0, 4, 0, 1, 1, 0);
-    tune(desk, 1, 3, 2, 0);
-    tune(desk, 2, 2, 1);
-    desk.setWish(0, 0, true);
-    desk.setLimit(5);
-    return desk;
-  }
-
-  private static PipersDesk full() {
-    PipersDesk desk = new PipersDesk();
-    for (int o = 0; o < 8; o++) {
-      ornament(desk, o);
-    }
-    for (int i = 0; i < 4; i++) {
-      desk.grace(7);
-    }
-    tune(desk, 0, 4, 0, 1, 0, 1, 0, 1, 0, 1, 0, 1);
-    desk.setWish(0, 8, true);
-    return desk;
-  }
-
-  /** A tune without a choice, and so no set with one. */
-  private static PipersDesk hopeless() {
-    PipersDesk desk = new PipersDesk();
-    ornament(desk, 7);
-    tune(desk, 0, 4, 0, 0, 0);
-    tune(desk, 1, 4, 1);
-    return desk;
-  }
-
   private static void pairsRefused(String exception, Call low, Call high) {
-    refused(exception, PipersDeskPromises::furnished, low);
-    refused(exception, PipersDeskPromises::furnished, high);
+    refused(exception, DeskChecks::furnished, low);
+    refused(exception, DeskChecks::furnished, high);
   }
 
   private static void newObject() {
-    begin("1 A new object");
+    promise("1 A new object");
     PipersDesk desk = new PipersDesk();
     due(0, desk, d -> d.ornaments());
     due(INDEX, desk, d -> d.fits(0, 0, 1, 1));
@@ -205,7 +46,7 @@ public final class PipersDeskPromises {
   }
 
   private static void cost() {
-    begin("2 cost");
+    promise("2 cost");
     PipersDesk desk = new PipersDesk();
     for (int from = 0; from < 9; from++) {
       for (int to = 0; to < 9; to++) {
@@ -224,7 +65,7 @@ public final class PipersDeskPromises {
   }
 
   private static void isBarred() {
-    begin("3 isBarred");
+    promise("3 isBarred");
     PipersDesk desk = new PipersDesk();
     for (int limit = 0; limit <= 8; limit++) {
       desk = new PipersDesk();
@@ -253,7 +94,7 @@ public final class PipersDeskPromises {
   }
 
   private static void setLimit() {
-    begin("4 setLimit");
+    promise("4 setLimit");
     PipersDesk desk = new PipersDesk();
     for (int limit = 8; limit >= 0; limit--) {
       int barred = 0;
@@ -284,12 +125,12 @@ public final class PipersDeskPromises {
     due(2, desk, d -> d.sets());
     due(true, desk, d -> d.fits(0, 4, 4, 0));
     for (int limit : new int[] {-1, 9, MIN, MAX}) {
-      refused(ARGUMENT, PipersDeskPromises::furnished, d -> d.setLimit(limit));
+      refused(ARGUMENT, DeskChecks::furnished, d -> d.setLimit(limit));
     }
   }
 
   private static void grace() {
-    begin("5 grace");
+    promise("5 grace");
     PipersDesk desk = new PipersDesk();
     due(1, desk, d -> d.grace(0));
     due(2, desk, d -> d.grace(8));
@@ -300,10 +141,10 @@ public final class PipersDeskPromises {
     desk.enter();
     due(1, desk, d -> d.grace(10));
     for (int grace : new int[] {-1, 11, MIN, MAX}) {
-      refused(ARGUMENT, PipersDeskPromises::furnished, d -> d.grace(grace));
-      refused(ARGUMENT, PipersDeskPromises::full, d -> d.grace(grace));
+      refused(ARGUMENT, DeskChecks::furnished, d -> d.grace(grace));
+      refused(ARGUMENT, DeskChecks::full, d -> d.grace(grace));
     }
-    refused(STATE, PipersDeskPromises::full, d -> d.grace(3));
+    refused(STATE, DeskChecks::full, d -> d.grace(3));
     // The draft goes on when there is no room for another ornament.
     PipersDesk crowded = new PipersDesk();
     for (int o = 0; o < 8; o++) {
@@ -313,7 +154,7 @@ public final class PipersDeskPromises {
   }
 
   private static void enter() {
-    begin("6 enter");
+    promise("6 enter");
     PipersDesk desk = new PipersDesk();
     for (int o = 0; o < 8; o++) {
       int number = o;
@@ -332,13 +173,13 @@ public final class PipersDeskPromises {
     due(1, desk, d -> d.grace(7));
     due(STATE, desk, d -> d.enter());
     due(2, desk, d -> d.grace(7));
-    refused(STATE, PipersDeskPromises::fresh, d -> d.enter());
-    refused(STATE, PipersDeskPromises::hopeless, d -> d.enter());
-    refused(STATE, PipersDeskPromises::full, d -> d.enter());
+    refused(STATE, DeskChecks::fresh, d -> d.enter());
+    refused(STATE, DeskChecks::hopeless, d -> d.enter());
+    refused(STATE, DeskChecks::full, d -> d.enter());
   }
 
   private static void ornaments() {
-    begin("7 ornaments");
+    promise("7 ornaments");
     PipersDesk desk = new PipersDesk();
     for (int o = 0; o < 8; o++) {
       int number = o;
@@ -354,7 +195,7 @@ public final class PipersDeskPromises {
   }
 
   private static void fits() {
-    begin("8 fits");
+    promise("8 fits");
     PipersDesk desk = new PipersDesk();
     ornament(desk, 7);
     ornament(desk, 7, 10);
@@ -388,20 +229,20 @@ public final class PipersDeskPromises {
     due(true, desk, d -> d.fits(5, 1, 4, 2));
     due(false, desk, d -> d.fits(5, 1, 3, 2));
     for (int number : new int[] {-1, 3, 8, MIN, MAX}) {
-      refused(INDEX, PipersDeskPromises::furnished, d -> d.fits(number, 0, 4, 1));
-      refused(INDEX, PipersDeskPromises::furnished, d -> d.fits(number, -1, 0, 9));
+      refused(INDEX, DeskChecks::furnished, d -> d.fits(number, 0, 4, 1));
+      refused(INDEX, DeskChecks::furnished, d -> d.fits(number, -1, 0, 9));
     }
-    refused(INDEX, PipersDeskPromises::fresh, d -> d.fits(0, 0, 4, 1));
+    refused(INDEX, DeskChecks::fresh, d -> d.fits(0, 0, 4, 1));
     for (int pitch : new int[] {-1, 9, 10, MIN, MAX}) {
       pairsRefused(ARGUMENT, d -> d.fits(0, pitch, 4, 1), d -> d.fits(2, 1, 4, pitch));
     }
     for (int length : new int[] {0, -1, 33, MIN, MAX}) {
-      refused(ARGUMENT, PipersDeskPromises::furnished, d -> d.fits(0, 0, length, 1));
+      refused(ARGUMENT, DeskChecks::furnished, d -> d.fits(0, 0, length, 1));
     }
   }
 
   private static void addNote() {
-    begin("9 addNote");
+    promise("9 addNote");
     PipersDesk desk = new PipersDesk();
     for (int t = 0; t < 4; t++) {
       for (int i = 1; i <= 10; i++) {
@@ -427,21 +268,21 @@ public final class PipersDeskPromises {
     due(true, wishing, d -> d.setWish(1, 0, true));
     due(false, wishing, d -> d.setWish(1, 1, false));
     for (int tune : new int[] {-1, 4, MIN, MAX}) {
-      refused(ARGUMENT, PipersDeskPromises::furnished, d -> d.addNote(tune, 0, 1));
+      refused(ARGUMENT, DeskChecks::furnished, d -> d.addNote(tune, 0, 1));
     }
     for (int pitch : new int[] {-1, 9, 10, MIN, MAX}) {
-      refused(ARGUMENT, PipersDeskPromises::furnished, d -> d.addNote(0, pitch, 1));
-      refused(ARGUMENT, PipersDeskPromises::full, d -> d.addNote(0, pitch, 1));
+      refused(ARGUMENT, DeskChecks::furnished, d -> d.addNote(0, pitch, 1));
+      refused(ARGUMENT, DeskChecks::full, d -> d.addNote(0, pitch, 1));
     }
     for (int length : new int[] {0, 33, MIN, MAX}) {
-      refused(ARGUMENT, PipersDeskPromises::furnished, d -> d.addNote(0, 0, length));
-      refused(ARGUMENT, PipersDeskPromises::full, d -> d.addNote(0, 0, length));
+      refused(ARGUMENT, DeskChecks::furnished, d -> d.addNote(0, 0, length));
+      refused(ARGUMENT, DeskChecks::full, d -> d.addNote(0, 0, length));
     }
-    refused(STATE, PipersDeskPromises::full, d -> d.addNote(0, 0, 1));
+    refused(STATE, DeskChecks::full, d -> d.addNote(0, 0, 1));
   }
 
   private static void removeNote() {
-    begin("10 removeNote");
+    promise("10 removeNote");
     PipersDesk desk = new PipersDesk();
     tune(desk, 2, 4, 0, 8, 3);
     tune(desk, 3, 4, 5);
@@ -455,13 +296,13 @@ public final class PipersDeskPromises {
     due(7, desk, d -> d.removeNote(2));
     due(5, desk, d -> d.removeNote(3));
     for (int tune : new int[] {-1, 4, MIN, MAX}) {
-      refused(ARGUMENT, PipersDeskPromises::furnished, d -> d.removeNote(tune));
+      refused(ARGUMENT, DeskChecks::furnished, d -> d.removeNote(tune));
     }
-    refused(ELEMENT, PipersDeskPromises::furnished, d -> d.removeNote(3));
+    refused(ELEMENT, DeskChecks::furnished, d -> d.removeNote(3));
   }
 
   private static void setWish() {
-    begin("11 setWish");
+    promise("11 setWish");
     PipersDesk desk = new PipersDesk();
     tune(desk, 0, 4, 0, 1, 0, 1, 0, 1, 0, 1, 0, 1);
     tune(desk, 3, 4, 0, 1);
@@ -479,20 +320,20 @@ public final class PipersDeskPromises {
     due(1, desk, d -> d.choices(3));
     due(true, desk, d -> d.setWish(0, 0, false));
     for (int tune : new int[] {-1, 4, MIN, MAX}) {
-      refused(ARGUMENT, PipersDeskPromises::furnished, d -> d.setWish(tune, 0, true));
-      refused(ARGUMENT, PipersDeskPromises::furnished, d -> d.setWish(tune, -1, true));
+      refused(ARGUMENT, DeskChecks::furnished, d -> d.setWish(tune, 0, true));
+      refused(ARGUMENT, DeskChecks::furnished, d -> d.setWish(tune, -1, true));
     }
     for (int gap : new int[] {-1, 3, 9, 10, MIN, MAX}) {
-      refused(INDEX, PipersDeskPromises::furnished, d -> d.setWish(0, gap, true));
-      refused(INDEX, PipersDeskPromises::furnished, d -> d.setWish(1, gap, true));
+      refused(INDEX, DeskChecks::furnished, d -> d.setWish(0, gap, true));
+      refused(INDEX, DeskChecks::furnished, d -> d.setWish(1, gap, true));
     }
-    refused(INDEX, PipersDeskPromises::furnished, d -> d.setWish(2, 0, true));
-    refused(INDEX, PipersDeskPromises::furnished, d -> d.setWish(3, 0, true));
-    refused(INDEX, PipersDeskPromises::full, d -> d.setWish(0, 9, true));
+    refused(INDEX, DeskChecks::furnished, d -> d.setWish(2, 0, true));
+    refused(INDEX, DeskChecks::furnished, d -> d.setWish(3, 0, true));
+    refused(INDEX, DeskChecks::full, d -> d.setWish(0, 9, true));
   }
 
   private static void notes() {
-    begin("12 notes");
+    promise("12 notes");
     PipersDesk desk = furnished();
     due(4, desk, d -> d.notes(0));
     due(2, desk, d -> d.notes(1));
@@ -500,12 +341,12 @@ public final class PipersDeskPromises {
     due(0, desk, d -> d.notes(3));
     due(10, full(), d -> d.notes(0));
     for (int tune : new int[] {-1, 4, MIN, MAX}) {
-      refused(ARGUMENT, PipersDeskPromises::furnished, d -> d.notes(tune));
+      refused(ARGUMENT, DeskChecks::furnished, d -> d.notes(tune));
     }
   }
 
   private static void time() {
-    begin("13 time");
+    promise("13 time");
     PipersDesk desk = new PipersDesk();
     ornament(desk, 7);
     ornament(desk, 1, 0, 1, 0);
@@ -521,24 +362,24 @@ public final class PipersDeskPromises {
     tune(desk, 1, 5, 2, 2);
     due(1, desk, d -> d.time(1, 0));
     due(5, desk, d -> d.time(1, 1));
-    refused(ARGUMENT, PipersDeskPromises::hopeless, d -> d.time(4, -1));
-    refused(ARGUMENT, PipersDeskPromises::furnished, d -> d.time(-1, 0));
-    refused(ARGUMENT, PipersDeskPromises::furnished, d -> d.time(MAX, 0));
-    refused(ARGUMENT, PipersDeskPromises::furnished, d -> d.time(MIN, 0));
+    refused(ARGUMENT, DeskChecks::hopeless, d -> d.time(4, -1));
+    refused(ARGUMENT, DeskChecks::furnished, d -> d.time(-1, 0));
+    refused(ARGUMENT, DeskChecks::furnished, d -> d.time(MAX, 0));
+    refused(ARGUMENT, DeskChecks::furnished, d -> d.time(MIN, 0));
     for (int note : new int[] {-1, 4, 10, MIN, MAX}) {
-      refused(INDEX, PipersDeskPromises::furnished, d -> d.time(0, note));
-      refused(INDEX, PipersDeskPromises::hopeless, d -> d.time(0, note));
+      refused(INDEX, DeskChecks::furnished, d -> d.time(0, note));
+      refused(INDEX, DeskChecks::hopeless, d -> d.time(0, note));
     }
-    refused(INDEX, PipersDeskPromises::furnished, d -> d.time(3, 0));
-    refused(INDEX, PipersDeskPromises::full, d -> d.time(0, 10));
+    refused(INDEX, DeskChecks::furnished, d -> d.time(3, 0));
+    refused(INDEX, DeskChecks::full, d -> d.time(0, 10));
     for (int i = 0; i < 3; i++) {
       int note = i;
-      refused(STATE, PipersDeskPromises::hopeless, d -> d.time(0, note));
+      refused(STATE, DeskChecks::hopeless, d -> d.time(0, note));
     }
   }
 
   private static void fitting() {
-    begin("14 fitting");
+    promise("14 fitting");
     PipersDesk desk = new PipersDesk();
     tune(desk, 0, 2, 0, 0, 1);
     desk.addNote(0, 0, 1);
@@ -561,19 +402,19 @@ public final class PipersDeskPromises {
     // Between 0 and 1 those of 2, 3, 5, 6 and 7; 0 and 1 repeat a pitch, 4 to 1 is barred.
     due(5, full(), d -> d.fitting(0, 0));
     due(5, full(), d -> d.fitting(0, 8));
-    refused(ARGUMENT, PipersDeskPromises::furnished, d -> d.fitting(4, -1));
-    refused(ARGUMENT, PipersDeskPromises::furnished, d -> d.fitting(-1, 0));
-    refused(ARGUMENT, PipersDeskPromises::furnished, d -> d.fitting(MAX, 0));
+    refused(ARGUMENT, DeskChecks::furnished, d -> d.fitting(4, -1));
+    refused(ARGUMENT, DeskChecks::furnished, d -> d.fitting(-1, 0));
+    refused(ARGUMENT, DeskChecks::furnished, d -> d.fitting(MAX, 0));
     for (int gap : new int[] {-1, 3, 9, MIN, MAX}) {
-      refused(INDEX, PipersDeskPromises::furnished, d -> d.fitting(0, gap));
+      refused(INDEX, DeskChecks::furnished, d -> d.fitting(0, gap));
     }
-    refused(INDEX, PipersDeskPromises::furnished, d -> d.fitting(2, 0));
-    refused(INDEX, PipersDeskPromises::furnished, d -> d.fitting(3, 0));
-    refused(INDEX, PipersDeskPromises::full, d -> d.fitting(0, 9));
+    refused(INDEX, DeskChecks::furnished, d -> d.fitting(2, 0));
+    refused(INDEX, DeskChecks::furnished, d -> d.fitting(3, 0));
+    refused(INDEX, DeskChecks::full, d -> d.fitting(0, 9));
   }
 
   private static void choices() {
-    begin("15 choices");
+    promise("15 choices");
     PipersDesk desk = new PipersDesk();
     due(1, desk, d -> d.choices(0));
     tune(desk, 0, 4, 0);
@@ -598,18 +439,8 @@ public final class PipersDeskPromises {
     due(3, desk, d -> d.choices(2));
     due(mostChoices(), greatest(), d -> d.choices(0));
     for (int tune : new int[] {-1, 4, MIN, MAX}) {
-      refused(ARGUMENT, PipersDeskPromises::furnished, d -> d.choices(tune));
+      refused(ARGUMENT, DeskChecks::furnished, d -> d.choices(tune));
     }
-  }
-
-  /** Nine gaps, at each of which eight ornaments fit, or none. */
-  private static PipersDesk greatest() {
-    PipersDesk desk = new PipersDesk();
-    for (int o = 0; o < 8; o++) {
-      ornament(desk, 1);
-    }
-    tune(desk, 0, 32, 0, 2, 0, 2, 0, 2, 0, 2, 0, 2);
-    return desk;
   }
 
   private static int mostChoices() {
@@ -623,7 +454,7 @@ public final class PipersDeskPromises {
   }
 
   private static void least() {
-    begin("16 least");
+    promise("16 least");
     PipersDesk desk = new PipersDesk();
     due(0, desk, d -> d.least(3));
     tune(desk, 3, 4, 0);
@@ -642,14 +473,14 @@ public final class PipersDeskPromises {
     tune(desk, 0, 2, 0, 0);
     due(6, desk, d -> d.least(0));
     for (int tune : new int[] {-1, 4, MIN, MAX}) {
-      refused(ARGUMENT, PipersDeskPromises::furnished, d -> d.least(tune));
-      refused(ARGUMENT, PipersDeskPromises::hopeless, d -> d.least(tune));
+      refused(ARGUMENT, DeskChecks::furnished, d -> d.least(tune));
+      refused(ARGUMENT, DeskChecks::hopeless, d -> d.least(tune));
     }
-    refused(STATE, PipersDeskPromises::hopeless, d -> d.least(0));
+    refused(STATE, DeskChecks::hopeless, d -> d.least(0));
   }
 
   private static void chosen() {
-    begin("17 chosen");
+    promise("17 chosen");
     PipersDesk desk = new PipersDesk();
     tune(desk, 0, 4, 0, 2, 0);
     ornament(desk, 7);
@@ -668,22 +499,22 @@ public final class PipersDeskPromises {
     desk.setWish(0, 1, false);
     due(1, desk, d -> d.chosen(0, 0));
     due(-1, desk, d -> d.chosen(0, 1));
-    refused(ARGUMENT, PipersDeskPromises::hopeless, d -> d.chosen(4, -1));
-    refused(ARGUMENT, PipersDeskPromises::furnished, d -> d.chosen(-1, 0));
-    refused(ARGUMENT, PipersDeskPromises::furnished, d -> d.chosen(MIN, 0));
+    refused(ARGUMENT, DeskChecks::hopeless, d -> d.chosen(4, -1));
+    refused(ARGUMENT, DeskChecks::furnished, d -> d.chosen(-1, 0));
+    refused(ARGUMENT, DeskChecks::furnished, d -> d.chosen(MIN, 0));
     for (int gap : new int[] {-1, 3, 9, MIN, MAX}) {
-      refused(INDEX, PipersDeskPromises::furnished, d -> d.chosen(0, gap));
-      refused(INDEX, PipersDeskPromises::hopeless, d -> d.chosen(0, gap));
+      refused(INDEX, DeskChecks::furnished, d -> d.chosen(0, gap));
+      refused(INDEX, DeskChecks::hopeless, d -> d.chosen(0, gap));
     }
-    refused(INDEX, PipersDeskPromises::furnished, d -> d.chosen(2, 0));
-    refused(INDEX, PipersDeskPromises::furnished, d -> d.chosen(3, 0));
-    refused(INDEX, PipersDeskPromises::full, d -> d.chosen(0, 9));
-    refused(STATE, PipersDeskPromises::hopeless, d -> d.chosen(0, 0));
-    refused(STATE, PipersDeskPromises::hopeless, d -> d.chosen(0, 1));
+    refused(INDEX, DeskChecks::furnished, d -> d.chosen(2, 0));
+    refused(INDEX, DeskChecks::furnished, d -> d.chosen(3, 0));
+    refused(INDEX, DeskChecks::full, d -> d.chosen(0, 9));
+    refused(STATE, DeskChecks::hopeless, d -> d.chosen(0, 0));
+    refused(STATE, DeskChecks::hopeless, d -> d.chosen(0, 1));
   }
 
   private static void mostOrnaments() {
-    begin("18 mostOrnaments");
+    promise("18 mostOrnaments");
     PipersDesk desk = new PipersDesk();
     due(0, desk, d -> d.mostOrnaments(0));
     tune(desk, 0, 4, 0, 1, 0, 1);
@@ -701,14 +532,14 @@ public final class PipersDeskPromises {
     due(0, desk, d -> d.mostOrnaments(1));
     due(9, greatest(), d -> d.mostOrnaments(0));
     for (int tune : new int[] {-1, 4, MIN, MAX}) {
-      refused(ARGUMENT, PipersDeskPromises::furnished, d -> d.mostOrnaments(tune));
-      refused(ARGUMENT, PipersDeskPromises::hopeless, d -> d.mostOrnaments(tune));
+      refused(ARGUMENT, DeskChecks::furnished, d -> d.mostOrnaments(tune));
+      refused(ARGUMENT, DeskChecks::hopeless, d -> d.mostOrnaments(tune));
     }
-    refused(STATE, PipersDeskPromises::hopeless, d -> d.mostOrnaments(0));
+    refused(STATE, DeskChecks::hopeless, d -> d.mostOrnaments(0));
   }
 
   private static void average() {
-    begin("19 average");
+    promise("19 average");
     PipersDesk desk = new PipersDesk();
     due(0.0f, desk, d -> d.average(0));
     tune(desk, 0, 4, 0);
@@ -720,14 +551,14 @@ public final class PipersDeskPromises {
     tune(desk, 0, 4, 0, 2, 0, 2);
     due(12.0f / 7.0f, desk, d -> d.average(0));
     for (int tune : new int[] {-1, 4, MIN, MAX}) {
-      refused(ARGUMENT, PipersDeskPromises::furnished, d -> d.average(tune));
-      refused(ARGUMENT, PipersDeskPromises::hopeless, d -> d.average(tune));
+      refused(ARGUMENT, DeskChecks::furnished, d -> d.average(tune));
+      refused(ARGUMENT, DeskChecks::hopeless, d -> d.average(tune));
     }
-    refused(STATE, PipersDeskPromises::hopeless, d -> d.average(0));
+    refused(STATE, DeskChecks::hopeless, d -> d.average(0));
   }
 
   private static void leastSet() {
-    begin("20 leastSet");
+    promise("20 leastSet");
     PipersDesk desk = new PipersDesk();
     due(0, desk, d -> d.leastSet());
     tune(desk, 1, 4, 2);
@@ -742,8 +573,8 @@ public final class PipersDeskPromises {
     due(156, longest(), d -> d.leastSet());
     sameOrnamentAcrossTunes();
     wishesInSets();
-    refused(STATE, PipersDeskPromises::hopeless, d -> d.leastSet());
-    refused(STATE, PipersDeskPromises::apart, d -> d.leastSet());
+    refused(STATE, DeskChecks::hopeless, d -> d.leastSet());
+    refused(STATE, DeskChecks::apart, d -> d.leastSet());
   }
 
   /** 0, 0 2 and 1: of all orders only 0 1 0 2 and 0 2 1 0 cost just 4; the former comes first. */
@@ -760,14 +591,6 @@ public final class PipersDeskPromises {
     for (int t = 0; t < 4; t++) {
       tune(desk, t, 32, 8, 0, 8, 0, 8, 0, 8, 0, 8, 0);
     }
-    return desk;
-  }
-
-  /** Two tunes that have choices, but no set: the movement from one to the other is barred. */
-  private static PipersDesk apart() {
-    PipersDesk desk = new PipersDesk();
-    tune(desk, 0, 4, 4);
-    tune(desk, 2, 4, 5);
     return desk;
   }
 
@@ -805,7 +628,7 @@ public final class PipersDeskPromises {
   }
 
   private static void tuneAt() {
-    begin("21 tuneAt");
+    promise("21 tuneAt");
     PipersDesk desk = new PipersDesk();
     tune(desk, 0, 4, 2);
     tune(desk, 1, 4, 0);
@@ -827,13 +650,13 @@ public final class PipersDeskPromises {
     for (int place = 0; place < 4; place++) {
       int at = place;
       due(at, longest(), d -> d.tuneAt(at));
-      refused(STATE, PipersDeskPromises::apart, d -> d.tuneAt(at));
+      refused(STATE, DeskChecks::apart, d -> d.tuneAt(at));
     }
     lengthDecidesOrder();
-    refused(INDEX, PipersDeskPromises::fresh, d -> d.tuneAt(0));
+    refused(INDEX, DeskChecks::fresh, d -> d.tuneAt(0));
     for (int place : new int[] {-1, 4, MIN, MAX}) {
       refused(INDEX, PipersDeskPromises::longest, d -> d.tuneAt(place));
-      refused(STATE, PipersDeskPromises::hopeless, d -> d.tuneAt(place));
+      refused(STATE, DeskChecks::hopeless, d -> d.tuneAt(place));
     }
   }
 
@@ -849,7 +672,7 @@ public final class PipersDeskPromises {
   }
 
   private static void sets() {
-    begin("22 sets");
+    promise("22 sets");
     PipersDesk desk = new PipersDesk();
     due(1, desk, d -> d.sets());
     tune(desk, 3, 4, 0);
@@ -901,7 +724,6 @@ public final class PipersDeskPromises {
     leastSet();
     tuneAt();
     sets();
-    System.out.println(wrong == 0 ? "all promises hold" : wrong + " checks failed");
-    if (wrong != 0) System.exit(1);
+    end();
   }
 }
