@@ -436,17 +436,17 @@ public final class PipersDeskChoiceEdges extends DeskChecks {
   }
 
   public static void main(String[] args) {
-    fittingRefused();
-    fitting();
-    choicesNone();
-    choices();
-    least();
-    chosenRefused();
-    chosenOfEqualCosts();
-    chosenOfLeastCost();
-    mostOrnaments();
-    average();
-    shorterBehindLonger();
+    part(PipersDeskChoiceEdges::fittingRefused);
+    part(PipersDeskChoiceEdges::fitting);
+    part(PipersDeskChoiceEdges::choicesNone);
+    part(PipersDeskChoiceEdges::choices);
+    part(PipersDeskChoiceEdges::least);
+    part(PipersDeskChoiceEdges::chosenRefused);
+    part(PipersDeskChoiceEdges::chosenOfEqualCosts);
+    part(PipersDeskChoiceEdges::chosenOfLeastCost);
+    part(PipersDeskChoiceEdges::mostOrnaments);
+    part(PipersDeskChoiceEdges::average);
+    part(PipersDeskChoiceEdges::shorterBehindLonger);
     end();
   }
 }

@@ -194,10 +194,10 @@ public final class PipersDeskMovementEdges extends DeskChecks {
   }
 
   public static void main(String[] args) {
-    newObject();
-    cost();
-    isBarred();
-    setLimit();
+    part(PipersDeskMovementEdges::newObject);
+    part(PipersDeskMovementEdges::cost);
+    part(PipersDeskMovementEdges::isBarred);
+    part(PipersDeskMovementEdges::setLimit);
     end();
   }
 }

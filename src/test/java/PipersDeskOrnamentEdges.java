@@ -302,17 +302,17 @@ public final class PipersDeskOrnamentEdges extends DeskChecks {
   }
 
   public static void main(String[] args) {
-    graceArguments();
-    graceFullAndEmpty();
-    graceMeaning();
-    enterFullAndEmpty();
-    enterKeepsAndEmpties();
-    ornaments();
-    fitsNumbers();
-    fitsArguments();
-    fitsLengths();
-    fitsOfSamePitches();
-    fitsOfBarredMovements();
+    part(PipersDeskOrnamentEdges::graceArguments);
+    part(PipersDeskOrnamentEdges::graceFullAndEmpty);
+    part(PipersDeskOrnamentEdges::graceMeaning);
+    part(PipersDeskOrnamentEdges::enterFullAndEmpty);
+    part(PipersDeskOrnamentEdges::enterKeepsAndEmpties);
+    part(PipersDeskOrnamentEdges::ornaments);
+    part(PipersDeskOrnamentEdges::fitsNumbers);
+    part(PipersDeskOrnamentEdges::fitsArguments);
+    part(PipersDeskOrnamentEdges::fitsLengths);
+    part(PipersDeskOrnamentEdges::fitsOfSamePitches);
+    part(PipersDeskOrnamentEdges::fitsOfBarredMovements);
     end();
   }
 }

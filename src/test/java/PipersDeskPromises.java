@@ -702,28 +702,28 @@ public final class PipersDeskPromises extends DeskChecks {
   }
 
   public static void main(String[] args) {
-    newObject();
-    cost();
-    isBarred();
-    setLimit();
-    grace();
-    enter();
-    ornaments();
-    fits();
-    addNote();
-    removeNote();
-    setWish();
-    notes();
-    time();
-    fitting();
-    choices();
-    least();
-    chosen();
-    mostOrnaments();
-    average();
-    leastSet();
-    tuneAt();
-    sets();
+    part(PipersDeskPromises::newObject);
+    part(PipersDeskPromises::cost);
+    part(PipersDeskPromises::isBarred);
+    part(PipersDeskPromises::setLimit);
+    part(PipersDeskPromises::grace);
+    part(PipersDeskPromises::enter);
+    part(PipersDeskPromises::ornaments);
+    part(PipersDeskPromises::fits);
+    part(PipersDeskPromises::addNote);
+    part(PipersDeskPromises::removeNote);
+    part(PipersDeskPromises::setWish);
+    part(PipersDeskPromises::notes);
+    part(PipersDeskPromises::time);
+    part(PipersDeskPromises::fitting);
+    part(PipersDeskPromises::choices);
+    part(PipersDeskPromises::least);
+    part(PipersDeskPromises::chosen);
+    part(PipersDeskPromises::mostOrnaments);
+    part(PipersDeskPromises::average);
+    part(PipersDeskPromises::leastSet);
+    part(PipersDeskPromises::tuneAt);
+    part(PipersDeskPromises::sets);
     end();
   }
 }

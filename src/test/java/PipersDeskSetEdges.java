@@ -372,16 +372,16 @@ public final class PipersDeskSetEdges extends DeskChecks {
   }
 
   public static void main(String[] args) {
-    noTunes();
-    oneTune();
-    twoAndThreeTunes();
-    allTunes();
-    placesRefused();
-    gapsBetweenTunes();
-    gapsWithinTunes();
-    sameOrnament();
-    costsOfSets();
-    numberOfCalls();
+    part(PipersDeskSetEdges::noTunes);
+    part(PipersDeskSetEdges::oneTune);
+    part(PipersDeskSetEdges::twoAndThreeTunes);
+    part(PipersDeskSetEdges::allTunes);
+    part(PipersDeskSetEdges::placesRefused);
+    part(PipersDeskSetEdges::gapsBetweenTunes);
+    part(PipersDeskSetEdges::gapsWithinTunes);
+    part(PipersDeskSetEdges::sameOrnament);
+    part(PipersDeskSetEdges::costsOfSets);
+    part(PipersDeskSetEdges::numberOfCalls);
     end();
   }
 }

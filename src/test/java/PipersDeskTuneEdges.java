@@ -382,16 +382,16 @@ public final class PipersDeskTuneEdges extends DeskChecks {
   }
 
   public static void main(String[] args) {
-    addNoteArguments();
-    addNoteFullAndEmpty();
-    addNoteWithoutWish();
-    removeNote();
-    setWish();
-    setWishBefore();
-    notes();
-    timeRefused();
-    time();
-    timeOfEqualCosts();
+    part(PipersDeskTuneEdges::addNoteArguments);
+    part(PipersDeskTuneEdges::addNoteFullAndEmpty);
+    part(PipersDeskTuneEdges::addNoteWithoutWish);
+    part(PipersDeskTuneEdges::removeNote);
+    part(PipersDeskTuneEdges::setWish);
+    part(PipersDeskTuneEdges::setWishBefore);
+    part(PipersDeskTuneEdges::notes);
+    part(PipersDeskTuneEdges::timeRefused);
+    part(PipersDeskTuneEdges::time);
+    part(PipersDeskTuneEdges::timeOfEqualCosts);
     end();
   }
 }

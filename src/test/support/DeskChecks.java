@@ -1,6 +1,6 @@
 /**
  * What the tests share: checks that are counted, calls that must be refused without a trace, and
- * desks in several states. A test extends this class, and ends with a call of end().
+ * desks in several states. A test extends this class, runs its parts, and ends with a call of end().
  */
 abstract class DeskChecks {
   static final int MIN = Integer.MIN_VALUE;
@@ -49,6 +49,15 @@ abstract class DeskChecks {
   static void edge(String name) {
     edge = name;
     line = 0;
+  }
+
+  /** Runs a part of a test. A call that throws where none is looked for fails, and ends the part alone. */
+  static void part(Runnable part) {
+    try {
+      part.run();
+    } catch (RuntimeException e) {
+      same("the exception " + e, "none");
+    }
   }
 
   static void end() {
